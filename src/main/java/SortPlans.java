@@ -321,6 +321,7 @@ public final class SortPlans {
         private static final int MOST_RANGES = Text.MOST / 9;
 
         final int[] bins = new int[SLOTS];
+        /** Of use only where there is a bin, with which it is set; so nothing has to clear it. */
         final boolean[] shares = new boolean[SLOTS];
         final boolean[] used = new boolean[TARGETS + 1];
         final boolean[] held = new boolean[TARGETS + 1];
@@ -334,9 +335,6 @@ public final class SortPlans {
         void clear() {
             Arrays.fill(bins, 0);
             Arrays.fill(next, 0);
-            for (int slot = 0; slot < SLOTS; slot++) {
-                shares[slot] = false;
-            }
             for (int target = 0; target <= TARGETS; target++) {
                 used[target] = false;
                 held[target] = false;

@@ -36,6 +36,7 @@ public final class CheckTest {
         c.dueFault(x, 0, 1, 0, 2, 0, 0);
         c.dueFault(x, 1, 1, 1, 2, 0, 0);
         c.dueFault(x, 2, 1, 2, 2, 0, 0);
+        c.due("check of a B of the last target", c.planOf("T2,0-9,0;B40,3,0,7;", 2).check(), 4);
         SortPlans y = c.planOf("T2,0-9,0;B2,3,2,7;B2,0,0,7;", 3);
         c.due("check", y.check(), 3);
         c.dueFault(y, 0, 2, 0, 2, 0, 0);

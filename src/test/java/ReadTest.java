@@ -13,6 +13,7 @@ public final class ReadTest {
         planStays(c);
         eightEditions(c);
         newPlanForgets(c);
+        planBeforeTheLastIsForgotten(c);
         c.end();
     }
 
@@ -183,5 +184,20 @@ public final class ReadTest {
         c.due("target of the first plan", x.target(0, 0), 0);
         c.due("overflow of the first plan", x.overflow(5), 5);
         c.due("hold of the first plan", x.hold(1, false), 0);
+    }
+
+    private static void planBeforeTheLastIsForgotten(Checks c) {
+        SortPlans x = c.planOf("T1,0-9,0;T40,0-9,0;B2,0,0,5+;B40,3,2,5+;O60,1;", 5);
+        x.hold(1, true);
+        x.hold(40, true);
+        c.due("read of nothing", x.read(), 0);
+        c.due("read", Checks.readOf(x, "T2,0-9,0;T3,0-9,0;B2,0,0,5;B3,0,0,5+;"), 4);
+        c.due("hold(1)", x.hold(1, false), 0);
+        c.due("hold(40)", x.hold(40, false), 0);
+        c.due("target", x.target(0, 0), 2);
+        c.due("bin of 40", x.bin(40, 3, 2), 0);
+        c.due("overflow(60)", x.overflow(60), 60);
+        c.due("check", x.check(), 1);
+        c.dueFault(x, 0, 0, 0, 2, 3, 5);
     }
 }
