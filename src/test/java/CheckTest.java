@@ -5,7 +5,9 @@ public final class CheckTest {
         none(c);
         holes(c);
         passesUpToTheGreatest(c);
+        eachNumberOfPasses(c);
         doubles(c);
+        noDoubles(c);
         order(c);
         heldAsOthers(c);
         again(c);
@@ -44,6 +46,22 @@ public final class CheckTest {
         c.dueFault(y, 2, 2, 2, 2, 0, 0);
     }
 
+    /** "0 up to the greatest that has a B in it", for each greatest in each shift; other shifts have no hole. */
+    private static void eachNumberOfPasses(Checks c) {
+        for (int shift = 0; shift < 3; shift++) {
+            for (int greatest = 0; greatest < 4; greatest++) {
+                SortPlans x = c.planOf("T1,0-9,0;T40,0-9,0;B40," + greatest + "," + shift + ",60;", 3);
+                c.due("check of greatest pass " + greatest, x.check(), 2 * greatest + 1);
+                for (int pass = 0; pass < greatest; pass++) {
+                    c.dueFault(x, 2 * pass, shift, pass, 1, 0, 0);
+                    c.dueFault(x, 2 * pass + 1, shift, pass, 40, 0, 0);
+                }
+                c.dueFault(x, 2 * greatest, shift, greatest, 1, 0, 0);
+                c.dueNoFault(x, 2 * greatest + 1);
+            }
+        }
+    }
+
     private static void doubles(Checks c) {
         String used = "T1,0-9,0;T40,0-9,0;";
         c.due("neither shares", c.planOf(used + "B1,0,0,5;B40,0,0,5;", 4).check(), 1);
@@ -56,6 +74,19 @@ public final class CheckTest {
             + "B1,1,2,1;B40,1,2,2;B1,0,2,1;B40,0,2,2;", 10);
         c.due("in the last pass and shift", x.check(), 1);
         c.dueFault(x, 0, 2, 3, 1, 40, 60);
+    }
+
+    /** "the same bin in one pass and shift": not in two of them. */
+    private static void noDoubles(Checks c) {
+        String used = "T1,0-9,0;T2,0-9,0;";
+        c.due("in two passes", c.planOf(used + "B1,0,0,5;B2,0,0,6;B1,1,0,6;B2,1,0,5;", 6).check(), 0);
+        c.due("in two shifts", c.planOf(used + "B1,0,0,5;B2,0,0,6;B1,0,1,6;B2,0,1,5;", 6).check(), 0);
+        c.due("of one target", c.planOf("T1,0-9,0;B1,0,0,5;B1,1,0,5;B1,0,1,5;", 4).check(), 0);
+        c.due("two holes are no double", c.planOf(used + "B3,0,0,5;", 3).check(), 2);
+        SortPlans three = c.planOf(used + "T3,0-9,0;B1,0,0,5+;B2,0,0,5;B3,0,0,5+;", 6);
+        c.due("one of three without a +", three.check(), 2);
+        c.dueFault(three, 0, 0, 0, 1, 2, 5);
+        c.dueFault(three, 1, 0, 0, 2, 3, 5);
     }
 
     private static void order(Checks c) {

@@ -1,4 +1,11 @@
-/** What the tests of the project share: it counts and prints the answers that are not due. */
+import java.util.ArrayList;
+import java.util.List;
+import java.util.function.Supplier;
+
+/**
+ * What the tests of the project share: it counts and prints the answers that are not due. An object answers for 512
+ * calls alone, so a test that asks more asks several objects that were made alike.
+ */
 final class Checks {
     static final int UNKNOWN = -101, OUTSIDE = -102, STATE = -103;
     private int wrong;
@@ -54,11 +61,98 @@ final class Checks {
     }
 
     static String sheetOf(SortPlans x) {
+        return signsOfSheet(x, 0, 1000);
+    }
+
+    /** The sheet's signs from one place to the one before another, or to its end. */
+    static String signsOfSheet(SortPlans x, int from, int to) {
         StringBuilder sheet = new StringBuilder();
-        for (int i = 0; i < 1000 && x.print(i) != 0; i++) {
-            sheet.append((char) x.print(i));
+        for (int i = from; i < to; i++) {
+            int sign = x.print(i);
+            if (sign == 0) {
+                break;
+            }
+            sheet.append((char) sign);
         }
         return sheet.toString();
+    }
+
+    /** Two ways to an object must come to the same state, as far as any call can tell. */
+    void dueSameState(String way, Supplier<SortPlans> got, Supplier<SortPlans> want) {
+        List<String> gotState = stateOf(got);
+        List<String> wantState = stateOf(want);
+        for (int part = 0; part < wantState.size(); part++) {
+            dueText("state after " + way, gotState.get(part), wantState.get(part));
+        }
+    }
+
+    private static List<String> stateOf(Supplier<SortPlans> made) {
+        List<String> parts = new ArrayList<>();
+        for (int shift = 0; shift < 3; shift++) {
+            parts.add(binsOf(made.get(), shift));
+        }
+        parts.add(targetsOf(made.get()));
+        parts.add(waysOf(made.get()));
+        parts.add("sheet " + sheetOf(made.get()));
+        parts.add(faultsOf(made.get()));
+        parts.add("check " + made.get().check());
+        SortPlans checked = made.get();
+        checked.check();
+        parts.add("found by a check now: " + faultsOf(checked));
+        parts.add(heldOf(made.get()));
+        parts.add(textOf(made.get()));
+        return parts;
+    }
+
+    private static String binsOf(SortPlans x, int shift) {
+        StringBuilder s = new StringBuilder("bins of shift " + shift);
+        for (int n = 0; n < 160; n++) {
+            s.append(' ').append(x.bin(n / 4 + 1, n % 4, shift));
+        }
+        return s.toString();
+    }
+
+    private static String targetsOf(SortPlans x) {
+        StringBuilder s = new StringBuilder("targets");
+        for (int kind = 0; kind < 10; kind++) {
+            for (int code : new int[] {0, 1, 5, 9, 10, 50, 99, 100, 5000, 9998, 9999}) {
+                s.append(' ').append(x.target(code, kind));
+            }
+        }
+        return s.toString();
+    }
+
+    private static String waysOf(SortPlans x) {
+        StringBuilder s = new StringBuilder("ways and editions");
+        for (int bin = 1; bin <= 60; bin++) {
+            s.append(' ').append(x.overflow(bin));
+        }
+        for (int edition = -1; edition <= 8; edition++) {
+            s.append(' ').append(x.compare(edition));
+        }
+        return s.toString();
+    }
+
+    private static String faultsOf(SortPlans x) {
+        StringBuilder s = new StringBuilder("faults");
+        for (int n = 0; n < 100; n++) {
+            s.append(' ').append(x.fault(n / 5, n % 5));
+        }
+        return s.toString();
+    }
+
+    private static String heldOf(SortPlans x) {
+        StringBuilder s = new StringBuilder("held");
+        for (int target = 1; target <= 40; target++) {
+            s.append(' ').append(x.hold(target, true));
+        }
+        return s.toString();
+    }
+
+    /** What there is of a text: a sign that cannot stand anywhere tells its length, if it is good so far. */
+    private static String textOf(SortPlans x) {
+        x.sign('~');
+        return "text " + x.read() + ", and then " + x.read();
     }
 
     void end() {

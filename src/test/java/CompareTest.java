@@ -5,6 +5,7 @@ public final class CompareTest {
         ordinary(c);
         exchangedAndHeld(c);
         everySlot(c);
+        allTargets(c);
         refusals(c);
         c.end();
     }
@@ -42,6 +43,27 @@ public final class CompareTest {
             c.due("read", Checks.readOf(x, place + "2;"), 1);
             c.due("compare of " + place, x.compare(0), 1);
         }
+    }
+
+    /** A target counts once, however many of its bins are others; and all forty of them count. */
+    private static void allTargets(Checks c) {
+        StringBuilder all = new StringBuilder();
+        for (int target = 1; target <= 40; target++) {
+            all.append("B" + target + ",0,0,1;");
+        }
+        SortPlans x = c.planOf(all.toString(), 40);
+        c.due("no target", x.compare(0), 0);
+        c.due("swap", x.swap(1, 2), 40);
+        c.due("all targets, exchanged", x.compare(0), 40);
+        c.due("read of nothing", x.read(), 0);
+        c.due("all targets, without a bin", x.compare(0), 40);
+        StringBuilder one = new StringBuilder();
+        for (int n = 0; n < 12; n++) {
+            one.append("B7," + n % 4 + "," + n / 4 + ",9;");
+        }
+        SortPlans y = c.planOf(one.toString(), 12);
+        c.due("swap", y.swap(9, 10), 12);
+        c.due("one target twelve times", y.compare(0), 1);
     }
 
     private static void refusals(Checks c) {

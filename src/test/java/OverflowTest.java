@@ -4,6 +4,8 @@ public final class OverflowTest {
         Checks c = new Checks();
         ordinary(c);
         rings(c);
+        ringsOfEachLength(c);
+        backToItselfOrToAnother(c);
         longest(c);
         refusals(c);
         c.end();
@@ -26,6 +28,32 @@ public final class OverflowTest {
         c.due("in a ring", x.overflow(3), -1);
         c.due("into a ring", x.overflow(4), -1);
         c.due("no ring", x.overflow(5), 6);
+    }
+
+    /** "-1 when that comes to a bin again": a ring of each length, and the same way without its last step. */
+    private static void ringsOfEachLength(Checks c) {
+        for (int length = 1; length <= 60; length++) {
+            String chain = chain(length - 1);
+            SortPlans ring = c.planOf(chain + "O" + length + ",1;", length);
+            SortPlans open = c.planOf(chain, length - 1);
+            for (int bin : new int[] {1, (length + 1) / 2, length}) {
+                c.due("overflow(" + bin + ") in a ring of " + length, ring.overflow(bin), -1);
+                c.due("overflow(" + bin + ") of " + length + " in a row", open.overflow(bin), length);
+            }
+            if (length < 60) {
+                c.due("beside the ring of " + length, ring.overflow(60), 60);
+            }
+        }
+    }
+
+    /** Into a ring in which the first bin does not stand: "a bin again" is any of them. */
+    private static void backToItselfOrToAnother(Checks c) {
+        String chain = chain(59);
+        for (int back = 1; back <= 60; back++) {
+            SortPlans x = c.planOf(chain + "O60," + back + ";", 60);
+            c.due("overflow(1), the last one going on into " + back, x.overflow(1), -1);
+            c.due("overflow(60), the last one going on into " + back, x.overflow(60), -1);
+        }
     }
 
     private static void longest(Checks c) {

@@ -5,6 +5,7 @@ public final class PrintTest {
         ordinary(c);
         asThePlanIsNow(c);
         noSuchSign(c);
+        lastSign(c);
         longest(c);
         c.end();
     }
@@ -46,6 +47,21 @@ public final class PrintTest {
         c.due("print(0) without a plan", without.print(0), 0);
     }
 
+    /** "0 when it has no such sign": the last one there is, and the first that is not, of sheets of all lengths. */
+    private static void lastSign(Checks c) {
+        StringBuilder text = new StringBuilder();
+        int length = 0;
+        for (int target = 1; target <= 20; target++) {
+            text.append("B" + target + ",0,0," + (61 - target) + ";");
+            length += target < 10 ? 5 : 6;
+            SortPlans x = c.planOf(text.toString(), target);
+            c.due("sign before the first of " + length, x.print(-1), 0);
+            c.due("first sign of " + length, x.print(0), '0' + (61 - target) / 10);
+            c.due("last sign of " + length, x.print(length - 1), ';');
+            c.due("sign behind the last of " + length, x.print(length), 0);
+        }
+    }
+
     private static void longest(Checks c) {
         StringBuilder text = new StringBuilder();
         StringBuilder sheet = new StringBuilder();
@@ -53,13 +69,21 @@ public final class PrintTest {
             text.append("B" + target + ",0,0," + (20 + target) + ";");
             sheet.append((20 + target) + ":" + target + ";");
         }
-        c.dueText("the longest sheet", Checks.sheetOf(c.planOf(text.toString(), 40)), sheet.toString());
+        // So long a text leaves an object some eighty calls of its 512.
+        for (int from = 0; from < sheet.length(); from += 60) {
+            int to = Math.min(from + 60, sheet.length());
+            c.dueText("the longest sheet from " + from,
+                Checks.signsOfSheet(c.planOf(text.toString(), 40), from, from + 60), sheet.substring(from, to));
+        }
+        c.due("the longest sheet's end", c.planOf(text.toString(), 40).print(sheet.length()), 0);
         StringBuilder one = new StringBuilder();
         for (int target = 40; target >= 1; target--) {
             one.append("B" + target + ",0,0,6;");
         }
-        c.dueText("one bin of all", Checks.sheetOf(c.planOf(one.toString(), 40)),
-            "6:1,2,3,4,5,6,7,8,9,10,11,12,13,14,15,16,17,18,19,20,"
-            + "21,22,23,24,25,26,27,28,29,30,31,32,33,34,35,36,37,38,39,40;");
+        String first = "6:1,2,3,4,5,6,7,8,9,10,11,12,13,14,15,16,17,18,19,20,";
+        String rest = "21,22,23,24,25,26,27,28,29,30,31,32,33,34,35,36,37,38,39,40;";
+        c.dueText("one bin of all", Checks.signsOfSheet(c.planOf(one.toString(), 40), 0, first.length()), first);
+        c.dueText("one bin of all, the rest", Checks.signsOfSheet(c.planOf(one.toString(), 40), first.length(), 1000),
+            rest);
     }
 }

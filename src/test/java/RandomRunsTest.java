@@ -1,10 +1,12 @@
 /**
  * Long runs of calls, made by a row of numbers that is the same each time: every answer is compared with that of
- * PlainSortPlans, and nothing may be thrown. The runs go on behind the 512th call, where nothing may be thrown either.
+ * PlainSortPlans, and nothing may be thrown. The runs go on behind the 512th call, where the answers are free but
+ * nothing may be thrown either.
  */
 public final class RandomRunsTest {
     private static final int RUNS = 600;
     private static final int CALLS = 700;
+    private static final int CALLS_ANSWERED = 512;
     private static final int[] EDGES = {Integer.MIN_VALUE, -1, 0, 1, 2, 3, 4, 7, 8, 9, 10, 39, 40, 41, 59, 60, 61, 99,
         100, 239, 240, 9998, 9999, 10000, Integer.MAX_VALUE};
 
@@ -99,7 +101,9 @@ public final class RandomRunsTest {
 
     private void due(String call, int got, int want) {
         calls++;
-        checks.due("run " + run + ", call " + calls + ": " + call, got, want);
+        if (calls <= CALLS_ANSWERED) {
+            checks.due("run " + run + ", call " + calls + ": " + call, got, want);
+        }
     }
 
     private void signOf(int c) {
